@@ -38,9 +38,6 @@ public final class LedgerShares {
         if (!within(c, -MOST_NUMBER, MOST_NUMBER) || !within(steps, 1, MOST_STEPS)) {
             return BAD;
         }
-        if (book.size >= MOST_CALLS) {
-            return FULL;
-        }
         return book.enter(op, a, b, c, steps);
     }
 
@@ -162,6 +159,7 @@ public final class LedgerShares {
         final int[] steps = new int[MOST_CALLS];
         final int[] goneAt = new int[MOST_WORKERS];
 
+        /** The number of the CALL entered; FULL if there is no place for it. */
         int enter(int op, int a, int b, int c, int stepsOfIt) {
             int number = size;
             if (!within(number, 0, MOST_CALLS - 1)) {

@@ -35,18 +35,6 @@ public final class PromisesTest {
         return x;
     }
 
-    private static void toldIs(String when, LedgerShares x, int... want) {
-        for (int what = 0; what < want.length; what++) {
-            due.is(when + ": told(" + what + ")", x.told(what), want[what]);
-        }
-    }
-
-    private static void ofIs(String when, LedgerShares x, int call, int... want) {
-        for (int what = 0; what < want.length; what++) {
-            due.is(when + ": of(" + call + ", " + what + ")", x.of(call, what), want[what]);
-        }
-    }
-
     private static void promise1() {
         LedgerShares x = new LedgerShares();
         for (int what = 0; what <= 2; what++) {
@@ -188,15 +176,15 @@ public final class PromisesTest {
         // TICK 2: WORKER 1 takes CALL 1 and is GONE; 0 works 3, 4, takes CALL 1 at 5.
         x.gone(1, 1);
         due.is("4: gone at 1", x.run(2, 2, 19, 40), 6);
-        toldIs("4: gone at 1", x, 2, 6, 3, 0, 1, 1, 0, 0);
-        ofIs("4: gone at 1", x, 1, 2, 2, 6, 0);
+        due.told("4: gone at 1", x, 2, 6, 3, 0, 1, 1, 0, 0);
+        due.of("4: gone at 1", x, 1, 2, 2, 6, 0);
         due.is("4: in each run", x.run(2, 2, 19, 40), 6);
 
         // TICK 6: WORKER 1 takes CALL 1 anew and is GONE; 0 takes it at 7.
         x.gone(1, 2);
         due.is("4: gone at 2", x.run(2, 2, 19, 40), 8);
-        toldIs("4: gone at 2", x, 2, 8, 4, 1, 1, 2, 0, 0);
-        ofIs("4: gone at 2", x, 1, 3, 2, 8, 0);
+        due.told("4: gone at 2", x, 2, 8, 4, 1, 1, 2, 0, 0);
+        due.of("4: gone at 2", x, 1, 3, 2, 8, 0);
 
         x.gone(1, 3);
         due.is("4: never came to 3", x.run(2, 2, 19, 40), 8);
@@ -206,7 +194,7 @@ public final class PromisesTest {
         x.gone(1, 0);
         x.gone(0, 1);
         due.is("4: the first gone", x.run(2, 2, 19, 40), 6);
-        ofIs("4: the first gone", x, 0, 2, 1, 4, 1);
+        due.of("4: the first gone", x, 0, 2, 1, 4, 1);
     }
 
     private static void promise5() {
@@ -237,15 +225,15 @@ public final class PromisesTest {
         // read key 0 as 0: ANEW. 6: 1 takes CALL 1. 7: 0 does nothing. 8: 1 ends it, KEPT.
         LedgerShares x = two();
         due.is("5: ahead", x.run(2, 2, 19, 40), 8);
-        toldIs("5: ahead", x, 2, 8, 3, 1, 0, 2, 1, 0);
-        ofIs("5: ahead", x, 0, 1, 1, 5, 0);
-        ofIs("5: ahead", x, 1, 2, 2, 8, 1);
+        due.told("5: ahead", x, 2, 8, 3, 1, 0, 2, 1, 0);
+        due.of("5: ahead", x, 0, 1, 1, 5, 0);
+        due.of("5: ahead", x, 1, 2, 2, 8, 1);
         due.is("5: ahead, key 1", x.amount(1), 6);
 
         // 2, 3: WORKER 1 finds no CALL within the ROOM; it takes CALL 1 at 6.
         due.is("5: room of 1", x.run(2, 2, 19, 1), 8);
-        toldIs("5: room of 1", x, 2, 8, 2, 0, 0, 1, 3, 0);
-        ofIs("5: room of 1", x, 1, 1, 6, 8, 1);
+        due.told("5: room of 1", x, 2, 8, 2, 0, 0, 1, 3, 0);
+        due.of("5: room of 1", x, 1, 1, 6, 8, 1);
         due.is("5: room of 2", x.run(2, 2, 19, 2), 8);
         due.is("5: room of 2, begun", x.told(2), 3);
 
@@ -255,8 +243,8 @@ public final class PromisesTest {
         y.call(PUT, 1, 1, 7, 1);
         y.call(ADD, 1, 2, 0, 1);
         due.is("5: reads ahead", y.run(3, 2, 19, 40), 21);
-        toldIs("5: reads ahead", y, 3, 21, 3, 0, 0, 2, 7, 0);
-        ofIs("5: reads ahead", y, 2, 1, 6, 21, 1);
+        due.told("5: reads ahead", y, 3, 21, 3, 0, 0, 2, 7, 0);
+        due.of("5: reads ahead", y, 2, 1, 6, 21, 1);
         due.is("5: reads ahead, key 2", y.amount(2), 7);
 
         // PUT reads too: what it read of b no longer stands behind CALL 0.
@@ -283,10 +271,10 @@ public final class PromisesTest {
         due.is("5: refused", x.run(3, 2, 19, 40), REFUSED);
         due.is("5: refused counts", x.count(2), 1);
         due.is("5: done stays", x.count(1), 1);
-        toldIs("5: refused", x, 2, 8, 3, 1, 0, 2, 1, 0);
+        due.told("5: refused", x, 2, 8, 3, 1, 0, 2, 1, 0);
         due.is("5: amount as ahead", x.amount(0), 5);
         due.is("5: outcome as ahead", x.outcome(2), 0);
-        ofIs("5: as ahead", x, 1, 2, 2, 8, 1);
+        due.of("5: as ahead", x, 1, 2, 2, 8, 1);
         due.is("5: bad ahead of refused", x.run(4, 2, 19, 40), BAD);
         due.is("5: no calls, none begun", x.run(0, 2, 19, 40), 0);
         due.is("5: a third one", x.run(3, 3, 19, 40) > 0, true);
@@ -372,8 +360,8 @@ public final class PromisesTest {
         due.is("9: no run", x.of(0, 0), NONE);
         due.is("9: no run, call 2", x.of(2, 0), BAD);
         x.run(2, 2, 19, 40);
-        ofIs("9", x, 0, 1, 1, 5, 0);
-        ofIs("9", x, 1, 2, 2, 8, 1);
+        due.of("9", x, 0, 1, 1, 5, 0);
+        due.of("9", x, 1, 2, 2, 8, 1);
         due.is("9: call -1", x.of(-1, 0), BAD);
         due.is("9: call 2", x.of(2, 0), BAD);
         due.is("9: what -1", x.of(0, -1), BAD);
@@ -381,11 +369,11 @@ public final class PromisesTest {
         due.is("9: far off", x.of(HIGH, 0), BAD);
         due.is("9: far off", x.of(0, LOW), BAD);
         x.call(PUT, 0, 0, 0, 1);
-        ofIs("9: came later", x, 2, NONE, NONE, NONE, NONE);
+        due.of("9: came later", x, 2, NONE, NONE, NONE, NONE);
         due.is("9: came later, what 4", x.of(2, 4), BAD);
         x.run(1, 1, 1, 1);
-        ofIs("9: none of the latest", x, 1, NONE, NONE, NONE, NONE);
-        ofIs("9: the latest", x, 0, 1, 1, 3, 0);
+        due.of("9: none of the latest", x, 1, NONE, NONE, NONE, NONE);
+        due.of("9: the latest", x, 0, 1, 1, 3, 0);
     }
 
     private static void promise10() {
@@ -400,13 +388,13 @@ public final class PromisesTest {
         // 8: 1 ends CALL 1, KEPT. 9: 1 does nothing till 0 steps at 13: it read 0, 6 is due: ANEW.
         // 14: 1 takes CALL 2. 15: 0 does nothing. 16: 1 ends it, KEPT.
         due.is("10: run", x.run(3, 2, 19, 40), 16);
-        toldIs("10", x, 3, 16, 5, 2, 0, 2, 5, 1);
+        due.told("10", x, 3, 16, 5, 2, 0, 2, 5, 1);
         due.is("10: what 8", x.told(8), BAD);
         due.is("10: what -1", x.told(-1), BAD);
         due.is("10: far off", x.told(LOW), BAD);
         due.is("10: far off", x.told(HIGH), BAD);
         x.run(0, 3, 1, 1);
-        toldIs("10: no calls", x, 0, 0, 0, 0, 0, 0, 0, 0);
+        due.told("10: no calls", x, 0, 0, 0, 0, 0, 0, 0, 0);
     }
 
     private static void promise11() {

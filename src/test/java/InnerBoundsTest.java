@@ -1,9 +1,10 @@
 import java.lang.reflect.Field;
 
 /**
- * The boundary cases of "Terms" that no calls by the face can reach, with numbers written into the
- * object's rows: AMOUNTS that wrap (40 CALLS bring one to 2 to the 60 at most), and a 30001st TICK
- * (40 CALLS of 9 STEPS took 7443 at most in 200000 RUNS of 16 WORKERS).
+ * The two boundary cases of "Terms" for which numbers are written into the object's rows: AMOUNTS that
+ * wrap, which no calls by the face can reach (40 CALLS bring one to 1000000 * (2^40 - 1) at most), and
+ * a 30001st TICK, for which no calls are known (40 CALLS of 9 STEPS, each an ADD of one KEY, took 7443
+ * at most in 200000 RUNS of 16 WORKERS).
  */
 public final class InnerBoundsTest {
     private static final int PUT = 0, ADD = 1, PAY = 2, WANT = 3, MEET = 5;

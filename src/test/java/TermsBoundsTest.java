@@ -676,7 +676,7 @@ public final class TermsBoundsTest {
     }
 
     private static void longestRuns() {
-        due.about("if a 30001st TICK would come (no RUN of 40 CALLS comes near it)");
+        due.about("if a 30001st TICK would come (long RUNS of 40 CALLS go through)");
         LedgerShares x = full(9);
         for (int seed = 0; seed < 40; seed++) {
             int workers = 1 + seed % 16;

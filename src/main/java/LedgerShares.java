@@ -443,7 +443,7 @@ public final class LedgerShares {
             int held = crew.holds[worker];
             if (held == NONE) {
                 takeCall(worker);
-            } else if (sheet.doesLastStep(held, worker)) {
+            } else if (within(held, 0, MOST_CALLS - 1) && sheet.doesLastStep(held, worker)) {
                 crew.holds[worker] = NONE;
                 underWay--;
             }
